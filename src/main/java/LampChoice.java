@@ -31,10 +31,12 @@ public final class LampChoice {
     private final Days days;
 
     public LampChoice() {
-        room = new Room();
-        choice = new Choice(room);
-        scenes = new Scenes(room, choice);
-        days = new Days(room, choice);
+        Room emptyRoom = new Room();
+        Choice firstChoice = new Choice(emptyRoom);
+        room = emptyRoom;
+        choice = firstChoice;
+        scenes = new Scenes(emptyRoom, firstChoice);
+        days = new Days(emptyRoom, firstChoice);
     }
 
     public int kind(int strength, int watts, int life, int cents)
@@ -211,7 +213,7 @@ public final class LampChoice {
 
     private static void checkCount(int count, int most) {
         if (count >= most) {
-            throw new IllegalStateException("there are no more of these");
+            throw new IllegalStateException("there are as many as there may be");
         }
     }
 
@@ -233,7 +235,7 @@ public final class LampChoice {
     }
 
     /** Kinds, places and points as they were told. */
-    static final class Room {
+    private static final class Room {
         final int[] strengths = new int[MOST_KINDS];
         final int[] watts = new int[MOST_KINDS];
         final int[] lives = new int[MOST_KINDS];
@@ -250,7 +252,9 @@ public final class LampChoice {
         int height = FIRST_HEIGHT;
 
         Room() {
-            Arrays.fill(held, NO);
+            for (int place = 0; place < MOST_PLACES; place++) {
+                held[place] = NO;
+            }
         }
 
         int addKind(int strength, int power, int life, int price) {
@@ -296,7 +300,7 @@ public final class LampChoice {
     }
 
     /** The best choice, found by trying kinds place by place, lesser kinds first. */
-    static final class Choice {
+    private static final class Choice {
         private final Room room;
         private final int[] lights = new int[MOST_PLACES * MOST_KINDS * MOST_POINTS];
         /** By place and point: the most light that this place and all behind it can give. */
@@ -382,8 +386,8 @@ public final class LampChoice {
             }
         }
 
+        /** Behind the last place nothing was ever written, so nothing can be reached there. */
         private void fillReach() {
-            Arrays.fill(reach, 0);
             for (int place = room.places - 1; place >= 0; place--) {
                 for (int point = 0; point < room.points; point++) {
                     int at = place * MOST_POINTS + point;
@@ -466,7 +470,7 @@ public final class LampChoice {
     }
 
     /** The scene of the lamps that stand there. */
-    static final class Scenes {
+    private static final class Scenes {
         private final Room room;
         private final Choice choice;
         private final int[] aims = new int[MOST_POINTS];
@@ -546,7 +550,7 @@ public final class LampChoice {
     }
 
     /** Lamps that follow the daylight, minute by minute. */
-    static final class Days {
+    private static final class Days {
         private final Room room;
         private final Choice choice;
         final int[] sensors = new int[MOST_PLACES];
@@ -562,7 +566,9 @@ public final class LampChoice {
         Days(Room room, Choice choice) {
             this.room = room;
             this.choice = choice;
-            Arrays.fill(sensors, NONE);
+            for (int place = 0; place < MOST_PLACES; place++) {
+                sensors[place] = NONE;
+            }
         }
 
         void startAnew() {

@@ -11,6 +11,7 @@ final class BestTest {
         evennessOfNothing();
         noChoice();
         newsChangesTheBest();
+        askedFirst();
         strongestLights();
         wrongArguments();
         Check.end("BestTest");
@@ -27,6 +28,8 @@ final class BestTest {
         Check.due("lamp(0)", x.lamp(0), 1);
         Check.due("lamp(1)", x.lamp(1), 1);
         Check.due("level(0)", x.level(0), 10000);
+        Check.due("one point alone is even: above", x.even(0), 1);
+        Check.due("one point alone is even: below", x.even(1), 1);
         x.hold(1, LampChoice.NONE);
         Check.due("one large lamp", x.best(), 30);
         Check.due("lamp(0)", x.lamp(0), 0);
@@ -141,6 +144,23 @@ final class BestTest {
         x.kind(9, 4, 1, 0);
         Check.due("with another kind", x.best(), 4);
         Check.due("it is that one", x.lamp(1), 1);
+    }
+
+    /** Each call finds the best choice by itself after news, not just best(). */
+    private static void askedFirst() {
+        LampChoice x = new LampChoice();
+        x.kind(9, 5, 1, 0);
+        x.place(0, 0);
+        x.point(0, 0, 1000);
+        Check.due("first of all: lamp", x.lamp(0), 0);
+        x.height(2);
+        Check.due("first of all: level", x.level(0), 2250);
+        x.point(0, 2, 0);
+        Check.due("first of all: 2 * 1125 by 3375, above", x.even(0), 2);
+        x.point(0, 2, 0);
+        Check.due("first of all: 3 * 1125 by 4500, below", x.even(1), 4);
+        x.height(5);
+        Check.due("first of all: none is enough", x.even(1), LampChoice.NO);
     }
 
     private static void strongestLights() {

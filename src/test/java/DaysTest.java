@@ -105,6 +105,14 @@ final class DaysTest {
         z.sensor(1, 0);
         z.run(1);
         Check.due("too weak for it alone", z.own(1, 0), 100);
+        LampChoice w = new LampChoice();
+        w.height(10);
+        w.kind(10, 1, 1, 0);
+        w.place(1, 0);
+        w.point(0, 0, 1);
+        w.sensor(0, 0);
+        w.run(1);
+        Check.due("light 99, 1 wanted: 0 at 1, 1 at 2", w.own(0, 0), 2);
     }
 
     private static void daylight() {

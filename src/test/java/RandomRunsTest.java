@@ -190,7 +190,8 @@ final class RandomRunsTest {
         int q = somePoint();
         int part = number(0, 1, 1);
         compare(call, "best", () -> lamps.best(), "" + (best == null ? -2 : best.watts));
-        compare(call, "lamp", () -> lamps.lamp(p), !isPlace(p) ? ARGUMENT : "" + (best == null ? -2 : best.lamps[p]), p);
+        compare(call, "lamp", () -> lamps.lamp(p),
+                !isPlace(p) ? ARGUMENT : "" + (best == null ? -2 : best.lamps[p]), p);
         compare(call, "level", () -> lamps.level(q),
                 !isPoint(q) ? ARGUMENT : "" + (best == null ? -2 : best.levels[q]), q);
         String even = !in(part, 0, 1) ? ARGUMENT

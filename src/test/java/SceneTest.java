@@ -7,6 +7,7 @@ final class SceneTest {
         aim();
         oneLamp();
         leastOfSeveral();
+        betterByOne();
         brightestAndDarkest();
         twoLamps();
         twentySweepsAtMost();
@@ -70,6 +71,26 @@ final class SceneTest {
         Check.due("1 and 2 are as good: scene", x.scene(), 2);
         x.aim(0, 199);
         Check.due("99 and 100 are as good: dim", x.dim(0), 99);
+    }
+
+    /** With lights 1, 9, 9, 6 the squares' sum is 10000 at dim 0 and 10000 - 200 + 199 at dim 1. */
+    private static void betterByOne() {
+        LampChoice x = new LampChoice();
+        x.height(10);
+        x.kind(1, 1, 1, 0);
+        x.place(0, 0);
+        x.hold(0, 0);
+        x.point(25, 0, 0);
+        x.point(1, 2, 0);
+        x.point(2, 1, 0);
+        x.point(5, 5, 0);
+        Check.due("light 1", x.light(0, 0, 0), 1);
+        Check.due("light 9", x.light(0, 0, 2), 9);
+        Check.due("light 6", x.light(0, 0, 3), 6);
+        x.aim(0, 1);
+        Check.due("better by one: dim(0)", x.dim(0), 1);
+        Check.due("better by one: miss(0)", x.miss(0), 99);
+        Check.due("better by one: miss(3)", x.miss(3), -6);
     }
 
     private static void brightestAndDarkest() {
