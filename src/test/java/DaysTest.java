@@ -41,10 +41,10 @@ final class DaysTest {
         x.run(30);
         Check.due("without it again", x.own(0, 0), 100);
         for (int bad : Check.outside(0, 0)) {
-            Check.argument("sensor(" + bad + ", 0)", () -> sensor(x, bad, 0));
+            Check.argument("sensor(" + bad + ", 0)", () -> Rooms.sensor(x, bad, 0));
         }
         for (int bad : Check.outside(LampChoice.NONE, 0)) {
-            Check.argument("sensor(0, " + bad + ")", () -> sensor(x, 0, bad));
+            Check.argument("sensor(0, " + bad + ")", () -> Rooms.sensor(x, 0, bad));
         }
         x.place(1, 1);
         x.hold(1, LampChoice.NONE);
@@ -319,11 +319,8 @@ final class DaysTest {
         Check.argument("point", () -> x.point(0, 0, -1));
         Check.state("point", () -> x.point(0, 0, 0));
         Check.argument("height", () -> x.height(0));
-        Check.argument("hold", () -> {
-            x.hold(0, 3);
-            return 0;
-        });
-        Check.argument("sensor", () -> sensor(x, 0, 16));
+        Check.argument("hold", () -> Rooms.hold(x, 0, 3));
+        Check.argument("sensor", () -> Rooms.sensor(x, 0, 16));
         Check.argument("daylight", () -> x.daylight(0, -1));
         Check.argument("step", () -> x.step(0));
         Check.argument("run", () -> x.run(0));
@@ -369,10 +366,5 @@ final class DaysTest {
         for (int bad : Check.outside(0, 2)) {
             Check.argument("used(" + bad + ")", () -> x.used(bad));
         }
-    }
-
-    private static long sensor(LampChoice x, int place, int point) {
-        x.sensor(place, point);
-        return 0;
     }
 }

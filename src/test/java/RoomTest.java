@@ -19,8 +19,8 @@ final class RoomTest {
         Check.argument("new: light(0, 0, 0)", () -> x.light(0, 0, 0));
         Check.argument("new: lamp(0)", () -> x.lamp(0));
         Check.argument("new: level(0)", () -> x.level(0));
-        Check.argument("new: hold(0, NONE)", () -> hold(x, 0, LampChoice.NONE));
-        Check.argument("new: sensor(0, NONE)", () -> sensor(x, 0, LampChoice.NONE));
+        Check.argument("new: hold(0, NONE)", () -> Rooms.hold(x, 0, LampChoice.NONE));
+        Check.argument("new: sensor(0, NONE)", () -> Rooms.sensor(x, 0, LampChoice.NONE));
         Check.due("new: best()", x.best(), 0);
         Check.due("new: even(0)", x.even(0), 0);
         Check.due("new: even(1)", x.even(1), 1);
@@ -114,14 +114,14 @@ final class RoomTest {
         LampChoice x = new LampChoice();
         x.place(0, 0);
         x.place(1, 0);
-        Check.argument("hold to a kind that is not there yet", () -> hold(x, 0, 0));
+        Check.argument("hold to a kind that is not there yet", () -> Rooms.hold(x, 0, 0));
         x.kind(9, 10, 1, 0);
         x.kind(18, 15, 1, 0);
         for (int bad : Check.outside(0, 1)) {
-            Check.argument("hold(" + bad + ", 0)", () -> hold(x, bad, 0));
+            Check.argument("hold(" + bad + ", 0)", () -> Rooms.hold(x, bad, 0));
         }
         for (int bad : Check.outside(LampChoice.NO, 1)) {
-            Check.argument("hold(0, " + bad + ")", () -> hold(x, 0, bad));
+            Check.argument("hold(0, " + bad + ")", () -> Rooms.hold(x, 0, bad));
         }
         Check.due("nothing held", x.best(), 0);
         x.hold(0, 1);
@@ -165,15 +165,5 @@ final class RoomTest {
         Check.due("10000 by 7500", x.light(0, 1, 0), 1);
         x.height(1);
         Check.due("the most", x.light(1, 0, 1), 10000000);
-    }
-
-    private static long hold(LampChoice x, int place, int kind) {
-        x.hold(place, kind);
-        return 0;
-    }
-
-    private static long sensor(LampChoice x, int place, int point) {
-        x.sensor(place, point);
-        return 0;
     }
 }

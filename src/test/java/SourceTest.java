@@ -1,0 +1,51 @@
+import java.io.IOException;
+import java.nio.file.Files;
+import java.nio.file.Path;
+import java.util.regex.Matcher;
+import java.util.regex.Pattern;
+
+/** Rules of LANGUAGE.md that the class's text shows; it is read from the project's directory. */
+final class SourceTest {
+    private static final String[] NEVER = {
+        "package", "catch", "try", "finally", "assert", "synchronized", "native", "transient", "volatile",
+        "protected", "double", "float", "extends", "implements", "instanceof", "null",
+    };
+    private static final String[] NEVER_WRITTEN = {
+        "->", "::", "Exact(", "static {", "[][]", "@",
+    };
+
+    private SourceTest() {
+    }
+
+    public static void main(String[] args) throws IOException {
+        String text = withoutComments(Files.readString(Path.of("src/main/java/LampChoice.java")));
+        for (String word : NEVER) {
+            Check.due("the word " + word, count(text, "\\b" + word + "\\b"), 0);
+        }
+        for (String sign : NEVER_WRITTEN) {
+            Check.due("the sign " + sign, count(text, Pattern.quote(sign)), 0);
+        }
+        Check.due("imports", count(text, "\\bimport\\b"), count(text, "import java\\.util\\.Arrays;"));
+        Check.due("throws by a written text", count(text, "\\bthrow\\b"),
+                count(text, "throw new Illegal(Argument|State)Exception\\(\"[^\"]*\"\\);"));
+        Check.due("divisions behind a test of the divisor", count(text, " [/%]=? "),
+                count(text, "below > 0 \\? above / below") + count(text, "&& b > 0; round\\+\\+\\) \\{\\s+long rest = a % b"));
+        Check.due("arrays are made in fields alone", count(text, "= new (int|long)\\["),
+                count(text, "final (int|long)\\[\\] \\w+ = new (int|long)\\["));
+        Check.due("fields that are static and not final", count(text, "\\bstatic (?!final)\\w+ \\w+ ?[=;]"), 0);
+        Check.end("SourceTest");
+    }
+
+    private static String withoutComments(String text) {
+        return text.replaceAll("(?s)/\\*.*?\\*/", "").replaceAll("//[^\n]*", "");
+    }
+
+    private static int count(String text, String pattern) {
+        Matcher matcher = Pattern.compile(pattern).matcher(text);
+        int found = 0;
+        while (matcher.find()) {
+            found++;
+        }
+        return found;
+    }
+}
