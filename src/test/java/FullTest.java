@@ -11,6 +11,7 @@ final class FullTest {
         minutesInOneStep();
         lastNumbers();
         lastOnesCount();
+        allPlacesWithoutLamps();
         allPlacesNeeded();
         manyEquals();
         greatestSums();
@@ -156,6 +157,38 @@ final class FullTest {
         Check.due("the last place must not: best()", x.best(), LampChoice.NO);
         x.hold(6, 2);
         Check.due("the last place must: best()", x.best(), 9);
+    }
+
+    /** "0 without lamps", "NONE without a lamp there": at all places, with a best choice and without one */
+    private static void allPlacesWithoutLamps() {
+        LampChoice x = fullRoom();
+        x.aim(15, 12);
+        dueDark("nothing is wanted", x, 0);
+        LampChoice y = new LampChoice();
+        y.kind(1, 1, 1, 1);
+        for (int place = 0; place < 7; place++) {
+            y.place(8 * place, 0);
+        }
+        for (int point = 0; point < 16; point++) {
+            y.point(3 * point, 4, 100000);
+        }
+        y.aim(15, 12);
+        dueDark("too much is wanted", y, LampChoice.NO);
+    }
+
+    private static void dueDark(String name, LampChoice x, int best) {
+        Check.due(name + ": best()", x.best(), best);
+        Check.due(name + ": scene()", x.scene(), 0);
+        Check.due(name + ": run(61)", x.run(61), 61);
+        for (int place = 0; place < 7; place++) {
+            Check.due(name + ": dim(" + place + ")", x.dim(place), LampChoice.NONE);
+            Check.due(name + ": own(" + place + ", 0)", x.own(place, 0), LampChoice.NONE);
+            Check.due(name + ": own(" + place + ", 1)", x.own(place, 1), LampChoice.NONE);
+        }
+        Check.due(name + ": miss(14)", x.miss(14), 0);
+        Check.due(name + ": miss(15)", x.miss(15), 1200);
+        Check.due(name + ": used(0)", x.used(0), 0);
+        Check.due(name + ": used(2)", x.used(2), 0);
     }
 
     private static void allPlacesNeeded() {

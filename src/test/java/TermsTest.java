@@ -150,6 +150,19 @@ final class TermsTest {
             y.point(0, 0, 0);
         }
         dueEven("16000 by 16000", y, 1, 1);
+        LampChoice z = new LampChoice();
+        z.kind(8, 10, 1, 0);
+        z.height(50);
+        z.place(0, 0);
+        z.point(50, 50, 1);
+        Check.due("the least level above 0", z.level(0), 1);
+        dueEven("1 by 1", z, 1, 1);
+        z.point(50, 50, 0);
+        dueEven("2 by 2", z, 1, 1);
+        z.point(49, 49, 1);
+        z.point(0, 0, 1);
+        Check.due("1, 1, 1 and 3", z.level(3), 3);
+        dueEven("4 by 6", z, 2, 3);
     }
 
     /** "of those that are enough the one with the fewest watts together": also if it is less even */
