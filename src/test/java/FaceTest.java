@@ -90,11 +90,36 @@ final class FaceTest {
     }
 
     private static void nestedClasses() {
+        Check.dueText("some twelve classes at most", "" + (LampChoice.class.getDeclaredClasses().length < 12), "true");
+        small(LampChoice.class);
         for (Class<?> nested : LampChoice.class.getDeclaredClasses()) {
             int modifiers = nested.getModifiers();
             Check.dueText(nested + " is static, and neither public nor protected",
                     "" + (Modifier.isStatic(modifiers) && !Modifier.isPublic(modifiers)
                             && !Modifier.isProtected(modifiers)), "true");
+            small(nested);
+            for (Method method : nested.getDeclaredMethods()) {
+                Check.dueText(nested + " has no method named as one of the face, " + method.getName(),
+                        "" + isOfTheFace(method.getName()), "false");
+            }
+        }
+    }
+
+    private static boolean isOfTheFace(String name) {
+        return Arrays.stream(FACE).anyMatch(text -> text.contains(" " + name + "("));
+    }
+
+    /** "A method takes at most seven parameters", "a class some twenty fields beside its constants" */
+    private static void small(Class<?> one) {
+        for (Method method : one.getDeclaredMethods()) {
+            Check.dueText(method + " takes seven at most", "" + (method.getParameterCount() <= 7), "true");
+        }
+        long fields = Arrays.stream(one.getDeclaredFields())
+                .filter(field -> !Modifier.isStatic(field.getModifiers())).count();
+        Check.dueText(one + " has " + fields + " fields, twenty at most", "" + (fields <= 20), "true");
+        for (Field field : one.getDeclaredFields()) {
+            boolean changes = Modifier.isStatic(field.getModifiers()) && !Modifier.isFinal(field.getModifiers());
+            Check.dueText(field + " is static and not final", "" + changes, "false");
         }
     }
 }

@@ -13,6 +13,7 @@ final class SceneTest {
         twentySweepsAtMost();
         strongestLights();
         withoutLamps();
+        lampsWithoutPoints();
         asItWouldComeNow();
         wrongArguments();
         Check.end("SceneTest");
@@ -196,12 +197,35 @@ final class SceneTest {
         Check.due("there is no best: scene()", x.scene(), 0);
         Check.due("there is no best: dim(0)", x.dim(0), LampChoice.NONE);
         Check.due("there is no best: miss(0)", x.miss(0), 1200);
-        LampChoice y = new LampChoice();
-        y.kind(9, 1, 1, 0);
-        y.place(0, 0);
-        y.hold(0, 0);
-        Check.due("a lamp without points: scene()", y.scene(), 1);
-        Check.due("a lamp without points: dim(0)", y.dim(0), 0);
+    }
+
+    /** "of all dims that one with which the sum .. is least .. (of several the least)": 0, so the first sweep changes nothing */
+    private static void lampsWithoutPoints() {
+        LampChoice x = new LampChoice();
+        x.kind(9, 1, 1, 0);
+        x.kind(10000, 500, 1, 0);
+        for (int place = 0; place < 7; place++) {
+            x.place(0, 0);
+        }
+        Check.due("no lamps, no points: scene()", x.scene(), 0);
+        for (int place = 0; place < 7; place++) {
+            x.hold(place, place % 2);
+            Check.due("lamps up to " + place + ", no points: scene()", x.scene(), 1);
+            Check.due("lamps up to " + place + ", no points: dim", x.dim(place), 0);
+        }
+        x.hold(3, LampChoice.NONE);
+        Check.due("six lamps, no points: scene()", x.scene(), 1);
+        Check.due("six lamps, no points: dim(3)", x.dim(3), LampChoice.NONE);
+        x.point(0, 0, 0);
+        Check.due("a point without an aim: scene()", x.scene(), 1);
+        x.aim(0, 500);
+        Check.due("a point with an aim: scene()", x.scene(), 2);
+        Check.due("a point with an aim: dim(0)", x.dim(0), 50);
+        for (int place = 0; place < 7; place++) {
+            x.hold(place, LampChoice.NONE);
+        }
+        Check.due("no lamps, a point with an aim: scene()", x.scene(), 0);
+        Check.due("no lamps, a point with an aim: miss(0)", x.miss(0), 50000);
     }
 
     private static void asItWouldComeNow() {

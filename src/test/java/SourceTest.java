@@ -30,10 +30,24 @@ final class SourceTest {
                 count(text, "throw new Illegal(Argument|State)Exception\\(\"[^\"]*\"\\);"));
         Check.due("divisions behind a test of the divisor", count(text, " [/%]=? "),
                 count(text, "below > 0 \\? above / below") + count(text, "&& b > 0; round\\+\\+\\) \\{\\s+long rest = a % b"));
-        Check.due("arrays are made in fields alone", count(text, "= new (int|long)\\["),
+        Check.due("arrays are made in fields alone", count(text, "\\bnew \\w+\\["),
                 count(text, "final (int|long)\\[\\] \\w+ = new (int|long)\\["));
         Check.due("fields that are static and not final", count(text, "\\bstatic (?!final)\\w+ \\w+ ?[=;]"), 0);
+        shortMethods(text);
         Check.end("SourceTest");
+    }
+
+    /** "Methods stay short (some sixty lines)": from the line that opens one to the one that closes it as deep. */
+    private static void shortMethods(String text) {
+        Matcher method = Pattern.compile("(?ms)^( {4}| {8})(?=\\S)(?!.{0,60}\\bclass\\b)[^;{}]*\\{\n.*?^\\1\\}\n").matcher(text);
+        int found = 0;
+        while (method.find()) {
+            found++;
+            long lines = method.group().lines().count();
+            Check.dueText("lines of " + method.group().lines().findFirst().orElse("") + " " + lines,
+                    "" + (lines <= 60), "true");
+        }
+        Check.dueText("methods found: " + found, "" + (found >= 21), "true");
     }
 
     private static String withoutComments(String text) {

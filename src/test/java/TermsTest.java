@@ -5,6 +5,8 @@ final class TermsTest {
 
     public static void main(String[] args) {
         lightIsRoundedDown();
+        allAtTheSameHeight();
+        levelIsTheSumOfAllLights();
         heldPlacesHaveThat();
         enoughIsTheWantedLevelOrMore();
         evennessOfNothing();
@@ -48,6 +50,51 @@ final class TermsTest {
         Check.due("15000 by 7401", x.light(2, 0, 0), 2);
         x.height(1);
         Check.due("15000 by 5001", x.light(2, 0, 0), 2);
+    }
+
+    /** "all at the same HEIGHT": places told before it and after it */
+    private static void allAtTheSameHeight() {
+        LampChoice x = new LampChoice();
+        x.kind(10, 1, 1, 0);
+        x.place(0, 0);
+        x.point(0, 0, 0);
+        Check.due("3 at first", x.light(0, 0, 0), 1111);
+        x.height(10);
+        x.place(0, 0);
+        x.point(0, 0, 0);
+        for (int place = 0; place < 2; place++) {
+            for (int point = 0; point < 2; point++) {
+                Check.due("height 10: light(0, " + place + ", " + point + ")", x.light(0, place, point), 100);
+            }
+        }
+    }
+
+    /** "Its LEVEL at a point is the sum of the lights of all lamps": each rounded down by itself */
+    private static void levelIsTheSumOfAllLights() {
+        LampChoice x = new LampChoice();
+        x.kind(10, 1, 1, 0);
+        x.kind(20, 2, 1, 0);
+        x.kind(30, 4, 1, 0);
+        for (int place = 0; place < 4; place++) {
+            x.place(place, 0);
+            x.hold(place, place < 3 ? place : LampChoice.NONE);
+        }
+        x.point(0, 0, 0);
+        x.point(3, 4, 0);
+        Check.due("three lamps: best()", x.best(), 7);
+        Check.due("1111 and 2000 and 2307", x.level(0), 1111 + 2000 + 2307);
+        Check.due("294 and 689 and 1153", x.level(1), 294 + 689 + 1153);
+        x.hold(2, LampChoice.NONE);
+        Check.due("two lamps: level(0)", x.level(0), 1111 + 2000);
+        LampChoice y = new LampChoice();
+        y.kind(1, 1, 1, 0);
+        y.height(50);
+        for (int place = 0; place < 7; place++) {
+            y.place(0, 0);
+            y.hold(place, 0);
+        }
+        y.point(0, 0, 0);
+        Check.due("seven times 1000 by 2500", y.level(0), 0);
     }
 
     /** Two places just above a point; each lamp of the first kind gives 1000 there, of the second 2000. */
